@@ -1,0 +1,63 @@
+/** Counts checks, and prints those that fail. */
+final class Checks {
+
+    /** A call on the class under test, its answer as a long (a boolean as 1 or 0). */
+    interface Call {
+        long make();
+    }
+
+    private int passed;
+    private int failed;
+
+    void equal(String what, long got, long want) {
+        if (got == want) {
+            passed++;
+        } else {
+            failed++;
+            System.out.println(what + " answered " + got + ", due is " + want);
+        }
+    }
+
+    void yes(String what, boolean got) {
+        equal(what, got ? 1 : 0, 1);
+    }
+
+    void no(String what, boolean got) {
+        equal(what, got ? 1 : 0, 0);
+    }
+
+    /** The very class, not one above or below it, and thrown by a throw of the class itself. */
+    void thrown(String what, Class<? extends RuntimeException> want, Call call) {
+        String got;
+        try {
+            got = "answered " + call.make();
+        } catch (RuntimeException e) {
+            StackTraceElement[] trace = e.getStackTrace();
+            boolean own = trace.length > 0
+                    && trace[0].getClassName().startsWith("RecurrenceAnswers");
+            if (e.getClass() == want && own) {
+                passed++;
+                return;
+            }
+            got = "threw " + e;
+        }
+        failed++;
+        System.out.println(what + " " + got + ", due is " + want.getSimpleName());
+    }
+
+    void illegalArgument(String what, Call call) {
+        thrown(what, IllegalArgumentException.class, call);
+    }
+
+    void illegalState(String what, Call call) {
+        thrown(what, IllegalStateException.class, call);
+    }
+
+    /** Ends the program: with exit code 1 if a check failed. */
+    void finish() {
+        System.out.println(passed + " checks held, " + failed + " did not");
+        if (failed != 0) {
+            System.exit(1);
+        }
+    }
+}
