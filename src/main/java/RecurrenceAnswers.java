@@ -59,7 +59,6 @@ public final class RecurrenceAnswers {
 
     public int run() {
         if (equation.greatestShift() < 0) {
-            answers.known = false;
             return 1;
         }
         if (!answers.known) {

@@ -543,6 +543,10 @@ public final class PromiseTests {
         x.factor(4, 0, P, 1);
         CHECKS.equal("2 again", x.end(0), 2);
         CHECKS.equal("2 again", x.end(1), 2);
+        x.factor(0, 0, 1, 1);
+        CHECKS.equal("a number counts", x.end(0), 0);
+        CHECKS.equal("the last alone", made(4, row(), row(), row(), row(), row(0, 1)).end(0), 4);
+        CHECKS.equal("the first alone", made(4, row(5)).end(1), 0);
         CHECKS.illegalArgument("which 2", () -> x.end(2));
         CHECKS.illegalArgument("which -1", () -> x.end(-1));
         CHECKS.illegalArgument("which on a new one", () -> new RecurrenceAnswers(1).end(3));
