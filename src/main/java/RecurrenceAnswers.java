@@ -567,18 +567,13 @@ public final class RecurrenceAnswers {
             system.eliminate();
             system.copyRowTo(row);
             hasParticular = system.copyParticularTo(particular);
+            collectTopNumbers(equation);
+            candidates.find(topNumbers);
             findBases(equation);
             known = true;
         }
 
-        /**
-         * The highest power that can come out of z^n times a polynomial has as its number the
-         * polynomial's head times the sum of z^i times the number of factor i at the factors'
-         * greatest degree: only the roots of that sum, four at most, can be bases.
-         */
         private void findBases(Equation equation) {
-            collectTopNumbers(equation);
-            candidates.find(topNumbers);
             baseCount = 0;
             for (int k = 0; k < candidates.count && baseCount < GREATEST_ORDER; k++) {
                 int z = candidates.at(k);
@@ -595,6 +590,11 @@ public final class RecurrenceAnswers {
             }
         }
 
+        /**
+         * The highest power that can come out of z^n times a polynomial has as its number the
+         * polynomial's head times the sum of z^i times the number of factor i at the factors'
+         * greatest degree: only the roots of that sum, four at most, can be bases.
+         */
         private void collectTopNumbers(Equation equation) {
             int top = equation.greatestDegree();
             for (int shift = 0; shift < FACTOR_LENGTH; shift++) {
@@ -675,7 +675,9 @@ public final class RecurrenceAnswers {
                 power[i] = i == 0 ? 1 : 0;
             }
             for (int bit = TOP_BIT; bit >= 0; bit--) {
-                squarePower(modulus);
+                squarePower();
+                Polynomials.reduceBy(square, modulus);
+                System.arraycopy(square, 0, power, 0, FACTOR_LENGTH);
                 if ((exponent >> bit & 1) == 1) {
                     Polynomials.multiplyByLinear(power, number);
                     Polynomials.reduceBy(power, modulus);
@@ -683,7 +685,8 @@ public final class RecurrenceAnswers {
             }
         }
 
-        private void squarePower(int[] modulus) {
+        /** Into the row square; the row power is too short for it. */
+        private void squarePower() {
             for (int i = 0; i < square.length; i++) {
                 square[i] = 0;
             }
@@ -693,8 +696,6 @@ public final class RecurrenceAnswers {
                     square[i + j] = (square[i + j] + power[i] * power[j]) % PRIME;
                 }
             }
-            Polynomials.reduceBy(square, modulus);
-            System.arraycopy(square, 0, power, 0, FACTOR_LENGTH);
         }
 
         /** Leaves in the first what divides both, monic; the second is used up. */
