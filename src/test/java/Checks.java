@@ -8,14 +8,32 @@ final class Checks {
 
     private int passed;
     private int failed;
+    private String sentence = "";
+
+    /** The sentence of the document that the checks behind it are about. */
+    void about(String words) {
+        sentence = "[" + words + "] ";
+    }
 
     void equal(String what, long got, long want) {
         if (got == want) {
             passed++;
         } else {
-            failed++;
-            System.out.println(what + " answered " + got + ", due is " + want);
+            fail(what + " answered " + got + ", due is " + want);
         }
+    }
+
+    void same(String what, String got, String want) {
+        if (got.equals(want)) {
+            passed++;
+        } else {
+            fail(what + ": " + got + ", due is: " + want);
+        }
+    }
+
+    private void fail(String text) {
+        failed++;
+        System.out.println(sentence + text);
     }
 
     void yes(String what, boolean got) {
@@ -41,8 +59,7 @@ final class Checks {
             }
             got = "threw " + e;
         }
-        failed++;
-        System.out.println(what + " " + got + ", due is " + want.getSimpleName());
+        fail(what + " " + got + ", due is " + want.getSimpleName());
     }
 
     void illegalArgument(String what, Call call) {
