@@ -26,7 +26,7 @@ public final class RecurrenceAnswers {
     public RecurrenceAnswers(int order) {
         equation = new Equation(Math.max(LEAST_ORDER, Math.min(GREATEST_ORDER, order)));
         system = new LinearSystem();
-        answers = new Answers(system);
+        answers = new Answers();
         values = new Values();
         zeros = new Roots();
         trial = new int[ANSWER_LENGTH];
@@ -62,7 +62,7 @@ public final class RecurrenceAnswers {
             return 1;
         }
         if (!answers.known) {
-            answers.find(equation);
+            answers.find(equation, system);
         }
         return 0;
     }
@@ -540,7 +540,6 @@ public final class RecurrenceAnswers {
 
     /** What run() finds. */
     private static final class Answers {
-        private final LinearSystem system;
         private final Roots candidates = new Roots();
         private final int[] topNumbers = new int[FACTOR_LENGTH];
         boolean known;
@@ -551,8 +550,7 @@ public final class RecurrenceAnswers {
         final int[] bases = new int[GREATEST_ORDER];
         final Row[] baseRows = new Row[GREATEST_ORDER];
 
-        Answers(LinearSystem system) {
-            this.system = system;
+        Answers() {
             for (int k = 0; k < GREATEST_ORDER; k++) {
                 baseRows[k] = new Row();
             }
@@ -562,18 +560,18 @@ public final class RecurrenceAnswers {
             return k >= 0 && k < baseCount;
         }
 
-        void find(Equation equation) {
+        void find(Equation equation, LinearSystem system) {
             system.fill(equation, 1);
             system.eliminate();
             system.copyRowTo(row);
             hasParticular = system.copyParticularTo(particular);
             collectTopNumbers(equation);
             candidates.find(topNumbers);
-            findBases(equation);
+            findBases(equation, system);
             known = true;
         }
 
-        private void findBases(Equation equation) {
+        private void findBases(Equation equation, LinearSystem system) {
             baseCount = 0;
             for (int k = 0; k < candidates.count && baseCount < GREATEST_ORDER; k++) {
                 int z = candidates.at(k);

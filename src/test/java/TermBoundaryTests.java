@@ -37,6 +37,7 @@ public final class TermBoundaryTests extends Equations {
         powersRows();
         valuesFromEnoughStarts();
         valuesOfTheGreatestFactor();
+        valuesOfEachPower();
         valuesUpToAZero();
         valuesUpToAZeroOfOthers();
         startsAtAZero();
@@ -571,6 +572,45 @@ public final class TermBoundaryTests extends Equations {
                 CHECKS.equal("enough again", x.value(300), m);
             }
         }
+    }
+
+    private static void valuesOfEachPower() {
+        CHECKS.about("y(k + m) is what the EQUATION for n = k makes: degrees up to 6 and 10");
+        for (int power = 0; power <= 6; power++) {
+            // 5 y(n + 1) = 3 n^power y(n), and 5 n^power y(n + 1) = 3 y(n), each from y(1) on.
+            RecurrenceAnswers lesser = new RecurrenceAnswers(1);
+            lesser.factor(0, power, -3, 1);
+            lesser.factor(1, 0, 5, 1);
+            RecurrenceAnswers greatest = new RecurrenceAnswers(1);
+            greatest.factor(0, 0, -3, 1);
+            greatest.factor(1, power, 5, 1);
+            for (int i = 0; i < 2; i++) {
+                lesser.start(7);
+                greatest.start(7);
+            }
+            for (int n = 1; n <= 200; n++) {
+                CHECKS.equal("3 n^" + power + " y(n) at " + n, 5L * lesser.value(n + 1) % P,
+                        3L * raised(n, power) * lesser.value(n) % P);
+                CHECKS.equal("5 n^" + power + " y(n + 1) at " + n,
+                        5L * raised(n, power) * greatest.value(n + 1) % P,
+                        3L * greatest.value(n) % P);
+            }
+        }
+        for (int power = 0; power <= 10; power++) {
+            RecurrenceAnswers x = equation(1, row(1));
+            x.right(power, 1, 1);
+            for (int n = 0; n <= 300; n++) {
+                CHECKS.equal("n^" + power + " at " + n, x.value(n), raised(n, power));
+            }
+        }
+    }
+
+    private static long raised(long n, int power) {
+        long product = 1;
+        for (int i = 0; i < power; i++) {
+            product = product * n % P;
+        }
+        return product;
     }
 
     /** (n - zero) y(n + m) = (n - zero) (y(n) + 1), told without the part that cancels. */
